@@ -1,5 +1,3 @@
-import java.util.Arrays;
-
 /** Objects of a story machine, held in the bytes of its memory; the document numbers what each method promises. */
 public final class ZObjects {
     private static final int UNKNOWN = -1;
@@ -451,7 +449,7 @@ public final class ZObjects {
 
         /** The k-th object within root, or 0. An own stack stands for the recursion, which could go 100 deep. */
         int met(int root, int k) {
-            Arrays.fill(isMet, false);
+            forgetMet();
             int many = 0;
             int depth = 0;
             int at = root;
@@ -476,6 +474,12 @@ public final class ZObjects {
                 }
             }
             return 0;
+        }
+
+        private void forgetMet() {
+            for (int i = 0; i < isMet.length; i++) {
+                isMet[i] = false;
+            }
         }
 
         private void takeOut(int parent, int object) {

@@ -76,6 +76,8 @@ public final class NamesTest {
         due.is("a name that ends with L", Story.name(x, 1), "aaabbb");
         x.poke(1793, 0x98);
         due.is("a name that ends with bit 15", Story.name(x, 1), "aaa");
+        Story.pokeBytes(x, 1793, 0x80, 0);
+        due.is("a name that ends with bit 15 alone", Story.name(x, 1), "   ");
         x.poke(1792, 0);
         due.is("a name without words", Story.name(x, 1), "");
         due.is("named(1) without words", x.named(1), 0);

@@ -190,6 +190,10 @@ public final class PropertiesTest {
         due.is("the object behind it", x.attribute(1, 0, 0), 0);
         due.is("property(1, last)", x.property(1, last), 65535);
         due.is("property(1, 1), which is there", x.property(1, 1), 5);
+        due.is("put(1, 1, 6)", x.put(1, 1, 6), 1);
+        due.is("property(1, 1)", x.property(1, 1), 6);
+        due.is("address(1, 1)", x.address(1, 1), 1794);
+        due.is("next(1, 1)", x.next(1, 1), 0);
         due.is("fallback(last, 2)", x.fallback(last, 2), 65535);
         x.poke(256 + 2, 0xfe);
         due.is("fallback(2, 0)", x.fallback(2, 0), 0xfe00);

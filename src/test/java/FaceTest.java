@@ -1,0 +1,77 @@
+import java.lang.reflect.Constructor;
+import java.lang.reflect.Field;
+import java.lang.reflect.Method;
+import java.lang.reflect.Modifier;
+import java.nio.file.Files;
+import java.nio.file.Path;
+import java.util.Arrays;
+import java.util.Set;
+import java.util.TreeSet;
+import java.util.regex.Pattern;
+
+/** The public face of the document, and those rules of LANGUAGE.md that can be seen without reading closely. */
+public final class FaceTest {
+    private static final Due due = new Due("FaceTest");
+    private static final String[] FACE = {
+        "int type(long, int)", "int object()", "int count()", "int peek(int)", "int poke(int, int)",
+        "boolean strict(boolean)", "int parent(int)", "int child(int)", "int sibling(int)", "int move(int, int)",
+        "int remove(int)", "int attribute(int, int, int)", "int property(int, int)", "int put(int, int, int)",
+        "int next(int, int)", "int address(int, int)", "int length(int)", "int fallback(int, int)",
+        "int name(int, int)", "int named(int)", "int within(int, int)", "int judge()", "int ring(int)",
+    };
+    private static final String[] RULED_OUT = {
+        "\\b(throw|throws|try|catch|synchronized|assert|volatile|transient|native)\\b", "->", "::",
+        "\\bstatic\\s*\\{", "\\.(hashCode|getClass|toString)\\(", "Exact\\(",
+        "\\bimport (?!java\\.util\\.(Arrays|ArrayList|List|Iterator);)",
+        "\\bpackage\\b", "System\\.(?!arraycopy)", "@",
+    };
+
+    public static void main(String[] args) throws Exception {
+        face();
+        members();
+        words();
+        due.end();
+    }
+
+    private static void face() {
+        Set<String> want = new TreeSet<>(Arrays.asList(FACE));
+        Set<String> got = new TreeSet<>();
+        for (Method method : ZObjects.class.getDeclaredMethods()) {
+            if (!Modifier.isPrivate(method.getModifiers()) && !method.isSynthetic()) {
+                String types = Arrays.toString(method.getParameterTypes()).replace("[", "(").replace("]", ")");
+                got.add(method.getReturnType() + " " + method.getName() + types);
+                due.is(method.getName() + " is public", Modifier.isPublic(method.getModifiers()), true);
+            }
+        }
+        due.is("the methods", got.toString(), want.toString());
+        due.is("the class is public and final", ZObjects.class.getModifiers() & 0xffff,
+                Modifier.PUBLIC | Modifier.FINAL);
+        Constructor<?>[] made = ZObjects.class.getDeclaredConstructors();
+        due.is("one constructor", made.length, 1);
+        due.is("of a version", Arrays.toString(made[0].getParameterTypes()), "[int]");
+    }
+
+    private static void members() {
+        for (Field field : ZObjects.class.getDeclaredFields()) {
+            due.is(field.getName() + " is private", Modifier.isPrivate(field.getModifiers()), true);
+        }
+        for (Class<?> inside : ZObjects.class.getDeclaredClasses()) {
+            due.is(inside.getName() + " is static", Modifier.isStatic(inside.getModifiers()), true);
+            for (Method method : inside.getDeclaredMethods()) {
+                boolean isOfTheFace = false;
+                for (String of : FACE) {
+                    isOfTheFace |= of.contains(" " + method.getName() + "(");
+                }
+                due.is(method.getName() + " has a name of its own", isOfTheFace, false);
+            }
+        }
+    }
+
+    private static void words() throws Exception {
+        String source = Files.readString(Path.of("src/main/java/ZObjects.java"));
+        String code = source.replaceAll("(?s)/\\*.*?\\*/", "").replaceAll("//[^\n]*", "");
+        for (String ruledOut : RULED_OUT) {
+            due.is("finding " + ruledOut, Pattern.compile(ruledOut).matcher(code).find(), false);
+        }
+    }
+}
