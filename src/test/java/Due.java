@@ -1,6 +1,7 @@
 /** Counts and prints the answers of one test that are not the ones that are due. */
 final class Due {
     private final String test;
+    private String about = "";
     private int checked;
     private int wrong;
 
@@ -8,19 +9,22 @@ final class Due {
         this.test = test;
     }
 
+    /** What the next answers are about; it stands before each that is printed. */
+    void about(String what) {
+        about = what;
+    }
+
     void is(String call, long got, long want) {
         checked++;
         if (got != want) {
-            wrong++;
-            System.out.println(test + ": " + call + " answered " + got + ", due is " + want);
+            tell(call + " answered " + got + ", due is " + want);
         }
     }
 
     void is(String call, String got, String want) {
         checked++;
         if (!got.equals(want)) {
-            wrong++;
-            System.out.println(test + ": " + call + " answered \"" + got + "\", due is \"" + want + "\"");
+            tell(call + " answered \"" + got + "\", due is \"" + want + "\"");
         }
     }
 
@@ -33,5 +37,10 @@ final class Due {
         if (wrong != 0 || checked == 0) {
             System.exit(1);
         }
+    }
+
+    private void tell(String what) {
+        wrong++;
+        System.out.println(test + ": " + about + what);
     }
 }

@@ -11,6 +11,49 @@ final class Story {
         return isWide(version) ? 63 : 31;
     }
 
+    /** The lowest first byte of a property of SIZE 2. */
+    static int two(int version) {
+        return isWide(version) ? 64 : 32;
+    }
+
+    /** The highest number that a link can hold. */
+    static int highestLink(int version) {
+        return isWide(version) ? 65535 : 255;
+    }
+
+    /** A story of objects with a table each, without names and properties. */
+    static ZObjects plain(int version, int many) {
+        ZObjects x = new ZObjects(version);
+        makePlain(x, many);
+        return x;
+    }
+
+    /** A story of objects by one call each; all have their tables at 1792. */
+    static ZObjects bare(int version, int many) {
+        ZObjects x = new ZObjects(version);
+        for (int i = 0; i < many; i++) {
+            x.object();
+        }
+        return x;
+    }
+
+    /** A story of one object with this table. */
+    static ZObjects one(int version, int... table) {
+        ZObjects x = new ZObjects(version);
+        make(x, table);
+        return x;
+    }
+
+    /** A story of one object whose table begins at an address, with these bytes. */
+    static ZObjects oneAt(int version, int address, int... table) {
+        ZObjects x = one(version, 0, 0);
+        setTable(x, version, 1, address);
+        for (int i = 0; i < table.length && address + i < 4096; i++) {
+            x.poke(address + i, table[i]);
+        }
+        return x;
+    }
+
     /** Makes an object with these bytes as its table: its number. */
     static int make(ZObjects x, int... table) {
         type(x, table);
