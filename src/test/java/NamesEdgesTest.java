@@ -321,6 +321,11 @@ public final class NamesEdgesTest {
         reads(version, " b", 2, 0, 7);
         reads(version, " b", 3, 0, 7);
         reads(version, "$b", 3, 6, 1, 4, 7);
+        // Higher than the alphabet at hand, which a shift of one sign does not change.
+        reads(version, "Bb", 2, 2, 7, 7);
+        reads(version, seven(version) + "b", 2, 3, 7, 7);
+        reads(version, "Bb", 3, 2, 7, 7);
+        reads(version, "BB", 2, 4, 7, 7);
     }
 
     private static void noughtBehindTwo(int version) {

@@ -277,6 +277,12 @@ public final class TermsEdgesTest {
         due.is("next(1, 8), the last", x.next(1, 8), 0);
         due.is("next(1, 7), behind the byte 0", x.next(1, 7), -3);
         due.is("put(1, 7, 1), behind the byte 0", x.put(1, 7, 1), -3);
+        // Nor is the byte 0 a property of number 0 itself, with the byte behind it.
+        ZObjects first = Story.one(version, 0, 0, 7, 9, 1, 0);
+        due.is("address(1, 9), two behind the byte 0", first.address(1, 9), 0);
+        ZObjects later = Story.one(version, 0, 9, 1, 0, 7, 8, 1, 0);
+        due.is("next(1, 8), two behind the byte 0", later.next(1, 8), -3);
+        due.is("next(1, 9), before the byte 0", later.next(1, 9), 0);
         ZObjects open = Story.one(version, 0, 9, 1);
         due.is("next(1, 9), the byte 0 is MEMORY's", open.next(1, 9), 0);
         Story.make(open, 8, 5, 0);
