@@ -12,6 +12,7 @@ import java.util.regex.Pattern;
 /** The public face of the document, and those rules of LANGUAGE.md that can be seen without reading closely. */
 public final class FaceTest {
     private static final Due due = new Due("FaceTest");
+    private static final String SOURCE = "src/main/java/ZObjects.java";
     private static final String[] FACE = {
         "int type(long, int)", "int object()", "int count()", "int peek(int)", "int poke(int, int)",
         "boolean strict(boolean)", "int parent(int)", "int child(int)", "int sibling(int)", "int move(int, int)",
@@ -29,6 +30,12 @@ public final class FaceTest {
     public static void main(String[] args) throws Exception {
         face();
         members();
+        shape(ZObjects.class);
+        for (Class<?> inside : ZObjects.class.getDeclaredClasses()) {
+            shape(inside);
+        }
+        due.is("at most twelve classes", ZObjects.class.getDeclaredClasses().length < 12, true);
+        lengths();
         words();
         due.end();
     }
@@ -67,8 +74,44 @@ public final class FaceTest {
         }
     }
 
+    /** Rules 3, 5 and 11, as far as fields and parameters tell. */
+    private static void shape(Class<?> of) {
+        int fields = 0;
+        for (Field field : of.getDeclaredFields()) {
+            String name = of.getSimpleName() + "." + field.getName();
+            boolean isStatic = Modifier.isStatic(field.getModifiers());
+            Class<?> type = field.getType();
+            fields += isStatic ? 0 : 1;
+            due.is(name + " is final, if static", isStatic && !Modifier.isFinal(field.getModifiers()), false);
+            due.is(name + " is a constant, if static", isStatic && !type.isPrimitive() && type != String.class, false);
+            due.is(name + " is of a type allowed", type.isPrimitive() || type == String.class
+                    || type.isArray() && type.getComponentType().isPrimitive()
+                    || type.getEnclosingClass() == ZObjects.class, true);
+        }
+        due.is(of.getSimpleName() + " has at most twenty fields", fields <= 20, true);
+        for (Method method : of.getDeclaredMethods()) {
+            due.is(method.getName() + " takes at most seven", method.getParameterCount() <= 7, true);
+        }
+    }
+
+    /** Rule 11: methods stay short; one ends with a brace as deep as its first line. */
+    private static void lengths() throws Exception {
+        String head = "";
+        int since = 0;
+        for (String line : Files.readAllLines(Path.of(SOURCE))) {
+            since++;
+            if (line.matches("( {4}| {8})\\w.*\\) \\{") && !line.matches(" *(if|for|while|switch)\\b.*")) {
+                head = line;
+                since = 0;
+            } else if (!head.isEmpty() && line.equals(head.replaceAll("\\S.*", "") + "}")) {
+                due.is(head.trim() + " has at most sixty lines", since <= 60, true);
+                head = "";
+            }
+        }
+    }
+
     private static void words() throws Exception {
-        String source = Files.readString(Path.of("src/main/java/ZObjects.java"));
+        String source = Files.readString(Path.of(SOURCE));
         String code = source.replaceAll("(?s)/\\*.*?\\*/", "").replaceAll("//[^\n]*", "");
         for (String ruledOut : RULED_OUT) {
             due.is("finding " + ruledOut, Pattern.compile(ruledOut).matcher(code).find(), false);
