@@ -12,6 +12,7 @@ import java.util.regex.Pattern;
 /** The public face of the document, and those rules of LANGUAGE.md that can be seen without reading closely. */
 public final class FaceTest {
     private static final Due due = new Due("FaceTest");
+    private static final Path DOCUMENT = Path.of("../shared/DOC.md");
     private static final String SOURCE = "src/main/java/ZObjects.java";
     private static final String[] FACE = {
         "int type(long, int)", "int object()", "int count()", "int peek(int)", "int poke(int, int)",
@@ -29,6 +30,7 @@ public final class FaceTest {
 
     public static void main(String[] args) throws Exception {
         face();
+        faceInTheDocument();
         members();
         shape(ZObjects.class);
         for (Class<?> inside : ZObjects.class.getDeclaredClasses()) {
@@ -56,6 +58,26 @@ public final class FaceTest {
         Constructor<?>[] made = ZObjects.class.getDeclaredConstructors();
         due.is("one constructor", made.length, 1);
         due.is("of a version", Arrays.toString(made[0].getParameterTypes()), "[int]");
+    }
+
+    /** That the face above is the document's: its lines without the names of what they take. */
+    private static void faceInTheDocument() throws Exception {
+        if (!Files.exists(DOCUMENT)) {
+            System.out.println("FaceTest: the document was not found, its face is not looked up");
+            return;
+        }
+        String text = Files.readString(DOCUMENT);
+        int from = text.indexOf("```java\n", text.indexOf("## The public face"));
+        Set<String> want = new TreeSet<>(Arrays.asList(FACE));
+        want.add("final class ZObjects {");
+        want.add("ZObjects(int)");
+        Set<String> got = new TreeSet<>();
+        for (String line : text.substring(from, text.indexOf("\n}", from)).split("\n")) {
+            if (line.contains("public ")) {
+                got.add(line.replaceAll("^ *public |;$", "").replaceAll("(int|long|boolean) \\w+(?=[,)])", "$1"));
+            }
+        }
+        due.is("the document's face", got.toString(), want.toString());
     }
 
     private static void members() {
@@ -94,12 +116,14 @@ public final class FaceTest {
         }
     }
 
-    /** Rule 11: methods stay short; one ends with a brace as deep as its first line. */
+    /** Rules 11 and 12: methods stay short and make nothing; one ends with a brace as deep as its first line. */
     private static void lengths() throws Exception {
         String head = "";
         int since = 0;
         for (String line : Files.readAllLines(Path.of(SOURCE))) {
             since++;
+            boolean isInCall = !head.isEmpty() && !head.matches(" *(public )?[A-Z]\\w*\\(.*");
+            due.is(head.trim() + " makes nothing", isInCall && line.matches(".*\\b(new|clone|copyOf\\w*)\\b.*"), false);
             if (line.matches("( {4}| {8})\\w.*\\) \\{") && !line.matches(" *(if|for|while|switch)\\b.*")) {
                 head = line;
                 since = 0;
