@@ -19,6 +19,9 @@ public final class NamesTest {
             abbreviations(version);
             abbreviationsEnd(version);
         }
+        for (int version = 2; version <= 8; version++) {
+            longestName(version);
+        }
         shiftsThatLast(1);
         shiftsThatLast(2);
         lineEndOfVersion1();
@@ -244,5 +247,26 @@ public final class NamesTest {
         due.is("an abbreviation far beyond", Story.name(x, 1), "b");
         Story.pokeWord(x, 64, 32768 + 4092 / 2);
         due.is("an abbreviation, twice its word % 65536", Story.name(x, 1), "aaabbbb");
+    }
+
+    /** 255 words with 381 abbreviations, each of 2688 signs that give nothing: what stands behind them is read still. */
+    private static void longestName(int version) {
+        int[] bytes = new int[2304];
+        bytes[0] = 255;
+        for (int i = 0; i < 255; i++) {
+            int word = i == 254 ? 6 << 10 | 7 << 5 | 8 : i % 2 == 0 ? 1 << 10 | 1 : 1 << 5;
+            bytes[1 + 2 * i] = word >> 8;
+            bytes[2 + 2 * i] = word & 255;
+        }
+        for (int i = 512; i < bytes.length; i += 2) {
+            bytes[i] = 0x10;
+            bytes[i + 1] = 0x84;
+        }
+        ZObjects x = new ZObjects(version);
+        for (int from = 0; from < bytes.length; from += 240) {
+            Story.make(x, Arrays.copyOfRange(bytes, from, Math.min(bytes.length, from + 240)));
+        }
+        Story.pokeWord(x, 64, 2304 / 2);
+        due.is("version " + version + ", the longest name", Story.name(x, 1), "abc");
     }
 }
